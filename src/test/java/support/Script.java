@@ -1,0 +1,103 @@
+import java.lang.reflect.InvocationTargetException;
+import java.lang.reflect.Method;
+import java.nio.ByteBuffer;
+import java.nio.charset.StandardCharsets;
+
+/**
+ * Runs of calls written as rows, each run on a new object. A row is one of
+ * "send 0 1 = 3" (the answer), "send 9 1 ! IndexOutOfBoundsException" (what is thrown), "crash 0" (nothing is looked at),
+ * "right: nodes 3" (a text that is right), "wrong: nodes 7 @ 6" (one that is wrong, and the first wrong byte),
+ * "tape: nodes 3" (a text that is fed and not read).
+ */
+final class Script {
+    private int rows = 0;
+    private int wrong = 0;
+
+    void run(String name, String... lines) {
+        LeastPending x = new LeastPending();
+        for (String line : lines) {
+            rows++;
+            String fault = line.startsWith("right: ") ? right(x, line.substring(7))
+                : line.startsWith("wrong: ") ? wrong(x, line.substring(7))
+                : line.startsWith("tape: ") ? feedText(x, line.substring(6))
+                : row(x, line);
+            if (fault != null) {
+                wrong++;
+                System.out.println(name + ": " + line + "   but it was " + fault);
+            }
+        }
+    }
+
+    void finish() {
+        System.out.println(rows + " rows, " + wrong + " wrong");
+        if (wrong != 0 || rows == 0) {
+            System.exit(1);
+        }
+    }
+
+    private static String feedText(LeastPending x, String text) {
+        byte[] bytes = text.getBytes(StandardCharsets.ISO_8859_1);
+        ByteBuffer all = ByteBuffer.allocate((bytes.length + 19) / 20 * 20);
+        all.put(bytes).rewind();
+        x.end(0);
+        while (all.hasRemaining()) {
+            x.feed(all.getInt(), all.getInt(), all.getInt(), all.getInt(), all.getInt());
+        }
+        return x.end(bytes.length) ? null : "not fed";
+    }
+
+    private static String right(LeastPending x, String text) {
+        feedText(x, text);
+        int before = x.count(2);
+        try {
+            int texts = x.net();
+            return texts != before + 1 ? "text " + texts : x.fault() != LeastPending.NONE ? "wrong at " + x.fault() : null;
+        } catch (IllegalArgumentException e) {
+            return "wrong at " + x.fault();
+        } catch (UnsupportedOperationException e) {
+            return "one too many";
+        }
+    }
+
+    private static String wrong(LeastPending x, String line) {
+        int cut = line.lastIndexOf(" @ ");
+        feedText(x, line.substring(0, cut));
+        int before = x.count(2);
+        try {
+            return "right, text " + x.net();
+        } catch (IllegalArgumentException e) {
+            int due = Integer.parseInt(line.substring(cut + 3));
+            return x.fault() != due ? "wrong at " + x.fault() : x.count(2) != before ? "counted" : null;
+        } catch (UnsupportedOperationException e) {
+            return "one too many";
+        }
+    }
+
+    private static String row(LeastPending x, String line) {
+        String[] sides = line.split(" = | ! ");
+        boolean throwing = line.contains(" ! ");
+        Object got = call(x, sides[0].split(" "));
+        boolean thrown = got instanceof Throwable;
+        String text = thrown ? ((Throwable) got).getClass().getSimpleName() : String.valueOf(got);
+        boolean fits = throwing == thrown && (sides.length == 1 || sides[1].equals(text));
+        return fits ? null : text;
+    }
+
+    private static Object call(LeastPending x, String[] words) {
+        Class<?>[] types = new Class<?>[words.length - 1];
+        Object[] args = new Object[words.length - 1];
+        for (int i = 1; i < words.length; i++) {
+            boolean isBoolean = words[i].equals("true") || words[i].equals("false");
+            types[i - 1] = isBoolean ? boolean.class : int.class;
+            args[i - 1] = isBoolean ? (Object) Boolean.valueOf(words[i]) : (Object) Integer.valueOf(words[i]);
+        }
+        try {
+            Method m = LeastPending.class.getMethod(words[0], types);
+            return m.invoke(x, args);
+        } catch (InvocationTargetException e) {
+            return e.getCause();
+        } catch (ReflectiveOperationException e) {
+            throw new IllegalStateException(e);
+        }
+    }
+}
