@@ -281,7 +281,7 @@ public final class LeastPending {
                 return NONE;
             }
             goesOn = trial.canStir();
-            trial.pass();
+            trial.passOn();
             goesOn = goesOn || trial.stirred;
         }
         return NONE;
@@ -812,10 +812,9 @@ public final class LeastPending {
             log.copyFrom(other.log);
         }
 
-        /** Begins AHEAD: what is told to happen, and JITTER, are not looked at there. */
+        /** Begins AHEAD, which knows no JITTER. */
         void lookFrom(Net other) {
             copyFrom(other);
-            events.waiting = 0;
             jitter = 0;
             takeovers = 0;
         }
@@ -824,7 +823,7 @@ public final class LeastPending {
             boolean goesOn = true;
             for (int k = 0; k < FAR && goesOn; k++) {
                 boolean could = canStir();
-                pass();
+                passOn();
                 goesOn = could || stirred;
             }
         }
@@ -898,8 +897,13 @@ public final class LeastPending {
 
         /** One TICK: how many times a MESSAGE was DELIVERED in it. */
         int pass() {
-            stirred = false;
             happen();
+            return passOn();
+        }
+
+        /** One TICK without its EVENTS, as AHEAD wants it. */
+        int passOn() {
+            stirred = false;
             hearAll();
             leadAll();
             int handedOut = handOutAll();

@@ -73,6 +73,10 @@ public final class AskPromisesTest {
         s.run("21 ahead of one another", join(down, "ahead 4 3 = true", "ahead 3 4 = true", "ahead 2 3 = true", "ahead 3 2 = false"));
         s.run("21 ahead by way of another one", "right: nodes 2;group 0;group 0 1;group 1", "send 0 0 = 0", "ticks 4", "send 0 1 = 1", "ticks 4",
             "ahead 0 1 = true", "send 1 2 = 2", "ahead 0 2 = false", "ticks 4", "ahead 1 2 = true", "ahead 0 2 = true", "ahead 2 0 = false");
+        // NODE 0 DELIVERED 1 0, NODE 1 DELIVERED 0 2, and nobody both 1 and 2
+        s.run("21 ahead by way of the first one", "right: nodes 2;group 0 1;group 0;group 1;delay 1 0 4;delay 0 1 4", "send 1 0 = 0", "send 0 1 = 1",
+            "ticks 30", "send 1 2 = 2", "ticks 5", "delivered 0 0 = 1", "delivered 0 1 = 0", "delivered 1 1 = 2", "ahead 1 2 = true", "ahead 2 1 = false",
+            "line 0 = 1", "line 1 = 0", "line 2 = 2");
         s.run("22 line", join(CROSSED, "line 0 = 0", "line 1 = 1", "line 2 = 2", "line 3 = 4", "line 4 = 3", "line 5 = -1", "line -1 = -1"));
         s.run("22 line of a round", join(down, "line 0 = 0", "line 2 = 2", "line 3 = 3", "line 4 = 4", "line 5 = -1"));
         s.run("22 line of all", "right: nodes 2;group 0;group 1", "send 0 1 = 0", "send 0 0 = 1", "send 0 1 = 2", "line 0 = -1", "ticks 5",
@@ -105,9 +109,12 @@ public final class AskPromisesTest {
             "chain 0 1 0 = 0", "chain 0 1 1 = 2", "chain 0 1 2 = -1", "chain 2 0 0 = 2", "chain 2 0 1 = -1", "chain 1 2 -1 = -1", "chain 1 2 20 = -1",
             "chain 0 0 0 = -1", "chain 3 0 0 = -1", "chain 4 0 0" + NO_INDEX, "chain 0 3 0" + NO_INDEX, "chain -1 0 0" + NO_INDEX,
             "chain 0 -1 0" + NO_INDEX));
-        // nobody who is UP GATHERS for MESSAGE 0: BLOCK in the NODE that is asked
-        s.run("27 chain without WAITS", "right: nodes 3;group 0 1;notice 20", "send 2 0 = 0", "ticks 2", "send 0 0 = 1", "crash 2", "ticks 4",
-            "waits 0 = -1", "chain 1 1 0 = 0", "chain 1 1 1 = -1", "block 1 1 = 0");
+        String[] before = {"right: nodes 4;group 0;group 0 1 2;group 2;notice 2", "hold 0 3 true", "hold 1 2 true", "send 3 0 = 0", "ticks 2"};
+        // nobody is left whom MESSAGE 1 waits for, or nobody who is UP GATHERS for it: BLOCK in the NODE that is asked, not in NODE 0
+        s.run("27 chain with empty WAITS", join(before, "send 2 1 = 1", "ticks 3", "send 2 2 = 2", "ticks 2", "crash 1", "ticks 2", "waits 1 = 0",
+            "block 0 1 = 0", "chain 2 2 0 = 1", "chain 2 2 1 = -1"));
+        s.run("27 chain without WAITS", join(before, "hold 1 2 false", "send 1 1 = 1", "ticks 2", "send 2 2 = 2", "crash 1", "ticks 2", "waits 1 = -1", "block 0 1 = 0",
+            "chain 2 2 0 = 1", "chain 2 2 1 = -1"));
     }
 
     private static void late(Script s) {

@@ -83,6 +83,10 @@ public final class FuzzTest {
             if (real.count(0) == 0) {
                 tell("nodes " + nodes + ";" + groupLine() + ";" + groupLine());
             }
+            // now and then many PACKETS at once
+            for (int k = random.nextInt(4) == 0 ? 20 : 0; k > 0; k--) {
+                call("send", someNode(), random.nextInt(Math.max(1, real.count(1))));
+            }
             int steps = 20 + random.nextInt(90);
             for (int i = 0; i < steps; i++) {
                 step();
@@ -97,7 +101,7 @@ public final class FuzzTest {
     }
 
     private void begin() {
-        nodes = 1 + random.nextInt(6);
+        nodes = random.nextInt(3) == 0 ? 6 : 1 + random.nextInt(6);
         StringBuilder text = new StringBuilder("nodes " + nodes);
         for (int g = 1 + random.nextInt(5); g > 0; g--) {
             text.append(';').append(groupLine());

@@ -54,6 +54,13 @@ public final class KeepPromisesTest {
             "count 7 = 1", "event 0 0 = 30", "count 9 = 1", "node 0 0 = 1", "node 0 4 = 3", "channel 0 1 0 = 2", "channel 1 0 1 = 1", "channel 1 0 2 = 1",
             "packet 1 0 0 1 = 1", "has 0 0 0 = 1", "gather 0 0 0 = 1", "message 0 2 = 4", "when 0 0 = -1", "delivered 0 0 = -1", "seed 1 = 77",
             "hold 1 0 false = true", "ticks 2 = 1", "ticks 2 = 1", "back = true", "has 0 0 0 = 1", "gather 0 0 0 = 1");
+        // all that THE IMAGE keeps has become another one by the time one goes back
+        s.run("41 back to what was DELIVERED", "image", "right: nodes 3;group 0 1;group 1 2;notice 1;at 40 send 2 1;at 41 crash 1", "send 0 0 = 0",
+            "ticks 5 = 2", "send 1 1 = 1", "hold 2 1 true", "ticks 3", "image", "back = true", "crash 0", "ticks 60", "back = true", "node 1 1 = 2",
+            "node 1 4 = 4", "message 1 0 = 1", "has 1 1 1 = 2", "has 1 0 3 = 0", "when 1 0 = 3", "late 0 = 3", "gather 1 1 0 = 2", "gather 1 1 1 = 2",
+            "gather 1 1 3 = -1", "log 0 2 = 0", "log 0 0 = 5", "log 1 2 = 1", "count 9 = 4", "event 0 2 = 2", "event 0 3 = 1", "event 1 3 = -1",
+            "outside 0 = 0", "line 0 = 0", "line 1 = -1", "hold 2 1 false = true", "ticks 4 = 2", "ahead 0 1 = true", "line 1 = 1", "back = true",
+            "ahead 0 1 = false", "line 1 = -1", "send 0 0 = 2", "log 0 3 = 2", "log 1 3 = 1", "log 2 3 = 0", "spared 1 = 2");
         s.run("41 back leaves the TAPE, fault() and THE IMAGE", "image", "right: nodes 2", "wrong: nodes 3;  @ 0", "tape: nodes 4", "back = true",
             "fault = 0", "count 0 = 0", "end 7 = true", "net = 1", "count 0 = 4", "back = true", "count 0 = 0", "count 2 = 0");
         s.run("40 the latest image", "image", "right: nodes 2", "image", "crash 0", "back = true", "node 0 0 = 1", "crash 0", "back = true", "node 0 0 = 1");

@@ -77,10 +77,25 @@ public final class StatePromisesTest {
         s.run("12 packets of who takes over", "right: nodes 3;group 0 1 2;notice 1", "hold 1 2 true", "send 2 0 = 0", "ticks 2",
             "crash 2", "ticks 2", "log 0 2 = 3", "packet 0 1 0 0 = 4", "packet 0 1 0 1 = 3", "packet 0 1 0 3 = -1", "channel 0 2 2 = 0",
             "ticks 1", "packet 1 0 0 1 = 4", "packet 1 0 0 3 = 1", "packet 1 0 0 4 = 1");
+        many(s);
         // JITTER 5: DRAW of SEED 1 is 16838, modulo 6 it is 2, then 5758 (4), then 10113 (3): LAST at least counts too
         s.run("12 JITTER", "right: nodes 1;group 0;jitter 5", "send 0 0", "packet 0 0 0 0 = 3", "send 0 0", "packet 0 0 1 0 = 5",
             "send 0 0", "packet 0 0 2 0 = 5", "channel 0 0 3 = 5", "right: jitter 0", "seed 1 = 662824084", "ticks 5", "send 0 0",
             "seed 1 = 1");
+    }
+
+    /** More PACKETS at once than the class has room for at first. */
+    private static void many(Script s) {
+        String[] rows = new String[43];
+        rows[0] = "right: nodes 6;group 0 1 2 3 4 5;delay 0 5 9";
+        for (int k = 0; k < 20; k++) {
+            rows[1 + k] = "send 0 0 = " + k;
+        }
+        String[] then = {"count 8 = 120", "packet 0 5 19 2 = 19", "packet 0 5 19 0 = 9", "packet 0 0 0 2 = 0", "due 5 19 = 20", "image", "ticks 2",
+            "count 8 = 120", "packet 1 0 7 3 = 8", "packet 0 5 7 2 = 7", "ticks 7", "count 8 = 20", "back = true", "count 8 = 120", "packet 0 5 19 2 = 19",
+            "hold 0 5 true", "crash 0", "ticks 3", "count 8 = 20", "packet 0 5 11 2 = 11", "back = true", "ticks 60 = 120"};
+        System.arraycopy(then, 0, rows, 21, then.length);
+        s.run("12 many packets", rows);
     }
 
     private static void gathers(Script s) {
