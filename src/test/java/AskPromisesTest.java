@@ -22,12 +22,6 @@ public final class AskPromisesTest {
         s.finish();
     }
 
-    private static String[] join(String[] one, String... other) {
-        String[] all = java.util.Arrays.copyOf(one, one.length + other.length);
-        System.arraycopy(other, 0, all, one.length, other.length);
-        return all;
-    }
-
     private static void due(Script s) {
         s.run("18 due", "right: nodes 3;group 0 1 2;group 1;delay 0 2 3", "send 0 0 = 0", "due 0 0 = 6", "due 2 0 = 8", "due 3 0" + NO_INDEX,
             "due 0 1" + NO_INDEX, "due -1 0" + NO_INDEX, "due 0 -1" + NO_INDEX, "count 4 = 0", "count 8 = 3", "count 9 = 1", "node 0 4 = 3",
@@ -67,24 +61,24 @@ public final class AskPromisesTest {
     };
 
     private static void crossed(Script s) {
-        String[] down = join(CROSSED, "parted 0 1 = 0", "crash 0", "crash 3", "ticks 5 = 0", "ticks 1 = 2");
-        s.run("21 ahead", join(CROSSED, "ahead 4 3 = true", "ahead 3 4 = false", "ahead 0 3 = true", "ahead 3 0 = false", "ahead 0 5" + NO_INDEX,
+        String[] down = Script.join(CROSSED, "parted 0 1 = 0", "crash 0", "crash 3", "ticks 5 = 0", "ticks 1 = 2");
+        s.run("21 ahead", Script.join(CROSSED, "ahead 4 3 = true", "ahead 3 4 = false", "ahead 0 3 = true", "ahead 3 0 = false", "ahead 0 5" + NO_INDEX,
             "ahead 5 5" + NO_INDEX, "ahead -1 0" + NO_INDEX, "ahead 0 0" + NO_ARGUMENT));
-        s.run("21 ahead of one another", join(down, "ahead 4 3 = true", "ahead 3 4 = true", "ahead 2 3 = true", "ahead 3 2 = false"));
+        s.run("21 ahead of one another", Script.join(down, "ahead 4 3 = true", "ahead 3 4 = true", "ahead 2 3 = true", "ahead 3 2 = false"));
         s.run("21 ahead by way of another one", "right: nodes 2;group 0;group 0 1;group 1", "send 0 0 = 0", "ticks 4", "send 0 1 = 1", "ticks 4",
             "ahead 0 1 = true", "send 1 2 = 2", "ahead 0 2 = false", "ticks 4", "ahead 1 2 = true", "ahead 0 2 = true", "ahead 2 0 = false");
         // NODE 0 DELIVERED 1 0, NODE 1 DELIVERED 0 2, and nobody both 1 and 2
         s.run("21 ahead by way of the first one", "right: nodes 2;group 0 1;group 0;group 1;delay 1 0 4;delay 0 1 4", "send 1 0 = 0", "send 0 1 = 1",
             "ticks 30", "send 1 2 = 2", "ticks 5", "delivered 0 0 = 1", "delivered 0 1 = 0", "delivered 1 1 = 2", "ahead 1 2 = true", "ahead 2 1 = false",
             "line 0 = 1", "line 1 = 0", "line 2 = 2");
-        s.run("22 line", join(CROSSED, "line 0 = 0", "line 1 = 1", "line 2 = 2", "line 3 = 4", "line 4 = 3", "line 5 = -1", "line -1 = -1"));
-        s.run("22 line of a round", join(down, "line 0 = 0", "line 2 = 2", "line 3 = 3", "line 4 = 4", "line 5 = -1"));
+        s.run("22 line", Script.join(CROSSED, "line 0 = 0", "line 1 = 1", "line 2 = 2", "line 3 = 4", "line 4 = 3", "line 5 = -1", "line -1 = -1"));
+        s.run("22 line of a round", Script.join(down, "line 0 = 0", "line 2 = 2", "line 3 = 3", "line 4 = 4", "line 5 = -1"));
         s.run("22 line of all", "right: nodes 2;group 0;group 1", "send 0 1 = 0", "send 0 0 = 1", "send 0 1 = 2", "line 0 = -1", "ticks 5",
             "line 0 = 0", "line 1 = 1", "line 2 = 2", "line 3 = -1");
-        s.run("25 parted", join(down, "parted 0 1 = 1", "parted 1 0 = 1", "parted 0 2 = 0", "parted 0 0" + NO_ARGUMENT, "parted 4 4" + NO_INDEX,
+        s.run("25 parted", Script.join(down, "parted 0 1 = 1", "parted 1 0 = 1", "parted 0 2 = 0", "parted 0 0" + NO_ARGUMENT, "parted 4 4" + NO_INDEX,
             "parted 0 4" + NO_INDEX, "parted -1 0" + NO_INDEX));
-        s.run("30 first of the least NODE", join(CROSSED, "first 3 4 = 4", "first 4 3 = 4", "first 0 3 = 0", "hold 3 1 false", "first 3 4 = 4"));
-        s.run("30 first of one that is DOWN", join(CROSSED, "crash 0", "first 3 4 = 4"));
+        s.run("30 first of the least NODE", Script.join(CROSSED, "first 3 4 = 4", "first 4 3 = 4", "first 0 3 = 0", "hold 3 1 false", "first 3 4 = 4"));
+        s.run("30 first of one that is DOWN", Script.join(CROSSED, "crash 0", "first 3 4 = 4"));
     }
 
     private static void after(Script s) {
@@ -105,15 +99,15 @@ public final class AskPromisesTest {
             "right: nodes 4;group 0 2;group 0 1;group 1 2;delay 3 2 9", "hold 2 1 true", "hold 2 3 true", "send 3 0 = 0", "ticks 3", "hold 0 3 true",
             "send 3 1 = 1", "ticks 2", "send 1 2 = 2", "ticks 5",
         };
-        s.run("27 chain", join(net, "waits 1 = 1", "waits 0 = 4", "waits 2 = 4", "chain 1 2 0 = 1", "chain 1 2 1 = 0", "chain 1 2 2 = -1",
+        s.run("27 chain", Script.join(net, "waits 1 = 1", "waits 0 = 4", "waits 2 = 4", "chain 1 2 0 = 1", "chain 1 2 1 = 0", "chain 1 2 2 = -1",
             "chain 0 1 0 = 0", "chain 0 1 1 = 2", "chain 0 1 2 = -1", "chain 2 0 0 = 2", "chain 2 0 1 = -1", "chain 1 2 -1 = -1", "chain 1 2 20 = -1",
             "chain 0 0 0 = -1", "chain 3 0 0 = -1", "chain 4 0 0" + NO_INDEX, "chain 0 3 0" + NO_INDEX, "chain -1 0 0" + NO_INDEX,
             "chain 0 -1 0" + NO_INDEX));
         String[] before = {"right: nodes 4;group 0;group 0 1 2;group 2;notice 2", "hold 0 3 true", "hold 1 2 true", "send 3 0 = 0", "ticks 2"};
         // nobody is left whom MESSAGE 1 waits for, or nobody who is UP GATHERS for it: BLOCK in the NODE that is asked, not in NODE 0
-        s.run("27 chain with empty WAITS", join(before, "send 2 1 = 1", "ticks 3", "send 2 2 = 2", "ticks 2", "crash 1", "ticks 2", "waits 1 = 0",
+        s.run("27 chain with empty WAITS", Script.join(before, "send 2 1 = 1", "ticks 3", "send 2 2 = 2", "ticks 2", "crash 1", "ticks 2", "waits 1 = 0",
             "block 0 1 = 0", "chain 2 2 0 = 1", "chain 2 2 1 = -1"));
-        s.run("27 chain without WAITS", join(before, "hold 1 2 false", "send 1 1 = 1", "ticks 2", "send 2 2 = 2", "crash 1", "ticks 2", "waits 1 = -1", "block 0 1 = 0",
+        s.run("27 chain without WAITS", Script.join(before, "hold 1 2 false", "send 1 1 = 1", "ticks 2", "send 2 2 = 2", "crash 1", "ticks 2", "waits 1 = -1", "block 0 1 = 0",
             "chain 2 2 0 = 1", "chain 2 2 1 = -1"));
     }
 

@@ -2,6 +2,9 @@ import java.lang.reflect.InvocationTargetException;
 import java.lang.reflect.Method;
 import java.nio.ByteBuffer;
 import java.nio.charset.StandardCharsets;
+import java.util.ArrayList;
+import java.util.Arrays;
+import java.util.List;
 
 /**
  * Runs of calls written as rows, each run on a new object. A row is one of
@@ -10,21 +13,91 @@ import java.nio.charset.StandardCharsets;
  * "tape: nodes 3" (a text that is fed and not read).
  */
 final class Script {
+    /** An object is promised for 512 calls: so many are asked of one, behind the run. */
+    private static final int ASKED_OF_ONE = 250;
+
     private int rows = 0;
     private int wrong = 0;
 
     void run(String name, String... lines) {
+        told(name, lines);
+    }
+
+    /**
+     * Behind a run each of the calls answers, or throws, as its row says, and leaves all that can be asked as it was: what is
+     * now, THE IMAGE, and the TAPE, which a text uses up.
+     */
+    void changesNothing(String name, String[] before, String... calls) {
+        List<String> asks = Asks.of(told(name, before));
+        for (String call : calls) {
+            for (int from = 0; from < asks.size(); from += ASKED_OF_ONE) {
+                List<String> part = asks.subList(from, Math.min(asks.size(), from + ASKED_OF_ONE));
+                compare(name, before, call, part, "count 4");
+                compare(name, before, call, part, "back");
+            }
+            if (usesTape(call)) {
+                told(name, join(before, call, "end 1 = false", "end 0 = true"));
+            } else {
+                compare(name, before, call, List.of("count 0", "count 1", "count 2", "count 5", "count 6", "fault"), "net");
+            }
+        }
+    }
+
+    static String[] join(String[] one, String... other) {
+        String[] all = Arrays.copyOf(one, one.length + other.length);
+        System.arraycopy(other, 0, all, one.length, other.length);
+        return all;
+    }
+
+    /** The same row again and again, each # in it the number of the time. */
+    static String[] times(int times, String row) {
+        String[] all = new String[times];
+        for (int k = 0; k < times; k++) {
+            all[k] = row.replace("#", String.valueOf(k));
+        }
+        return all;
+    }
+
+    private void compare(String name, String[] before, String call, List<String> part, String first) {
+        List<String> asks = new ArrayList<>(part);
+        asks.add(0, first);
+        asks.add("seed 7");
+        LeastPending plain = told(name, before);
+        LeastPending called = told(name, before);
+        tell(name, called, call);
+        for (String ask : asks) {
+            rows++;
+            String due = String.valueOf(call(plain, ask.split(" ")));
+            String got = String.valueOf(call(called, ask.split(" ")));
+            // fault() is of the latest text, also of a wrong one
+            if (!due.equals(got) && !(usesTape(call) && ask.equals("fault"))) {
+                wrong++;
+                System.out.println(name + ": behind " + call + ", " + first + ": " + ask + " is " + got + ", without that call " + due);
+            }
+        }
+    }
+
+    private static boolean usesTape(String call) {
+        return call.startsWith("wrong: ") || call.startsWith("net");
+    }
+
+    private LeastPending told(String name, String[] lines) {
         LeastPending x = new LeastPending();
         for (String line : lines) {
-            rows++;
-            String fault = line.startsWith("right: ") ? right(x, line.substring(7))
-                : line.startsWith("wrong: ") ? wrong(x, line.substring(7))
-                : line.startsWith("tape: ") ? feedText(x, line.substring(6))
-                : row(x, line);
-            if (fault != null) {
-                wrong++;
-                System.out.println(name + ": " + line + "   but it was " + fault);
-            }
+            tell(name, x, line);
+        }
+        return x;
+    }
+
+    private void tell(String name, LeastPending x, String line) {
+        rows++;
+        String fault = line.startsWith("right: ") ? right(x, line.substring(7))
+            : line.startsWith("wrong: ") ? wrong(x, line.substring(7))
+            : line.startsWith("tape: ") ? feedText(x, line.substring(6))
+            : row(x, line);
+        if (fault != null) {
+            wrong++;
+            System.out.println(name + ": " + line + "   but it was " + fault);
         }
     }
 
