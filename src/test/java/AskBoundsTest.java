@@ -82,12 +82,18 @@ public final class AskBoundsTest {
         s.run("AHEAD OF one that is ahead of it", "right: nodes 3;group 0;group 0 1;group 1 2;group 2", "send 0 0", "ticks 4", "send 0 1", "ticks 4", "send 1 2", "ticks 4", "send 2 3", "ticks 4 = 1", "ahead 0 1 = true",
             "ahead 0 2 = true", "ahead 0 3 = true", "ahead 3 0 = false", "ahead 2 0 = false");
         s.run("AHEAD OF one another", Script.join(CROSSED, "ahead 3 4 = true", "ahead 4 3 = true", "ahead 4 5 = true", "ahead 5 4 = true", "ahead 2 3 = true", "ahead 3 2 = false"));
+        s.run("AHEAD OF by way of the first one", "right: nodes 2;group 0 1;group 0;group 1;delay 1 0 4;delay 0 1 4", "send 1 0 = 0", "send 0 1 = 1", "ticks 30 = 3", "send 1 2 = 2", "ticks 5 = 1", "delivered 0 0 = 1",
+            "delivered 0 1 = 0", "delivered 1 0 = 0", "delivered 1 1 = 2", "ahead 1 2 = true", "ahead 2 1 = false");
         s.run("LINE: none", "line 0 = -1", "right: nodes 1;group 0", "send 0 0", "line 0 = -1", "ticks 4", "line 0 = 0", "line 1 = -1", "line -1 = -1");
         s.run("LINE: of those that none is ahead of the least number", "right: nodes 3;group 2;group 1;group 0", "send 0 0 = 0", "send 0 1 = 1", "send 0 2 = 2", "hold 0 2 true", "ticks 9 = 2", "line 0 = 1", "line 1 = 2",
             "line 2 = -1", "hold 0 2 false", "ticks 9 = 1", "line 0 = 0", "line 1 = 1", "line 2 = 2", "line 3 = -1");
         s.run("LINE: one that is ahead comes first", "right: nodes 2;group 0 1;group 0;delay 1 0 4;delay 0 1 4", "send 1 0 = 0", "send 0 1 = 1", "ticks 30 = 3", "delivered 0 0 = 1", "delivered 0 1 = 0",
             "line 0 = 1", "line 1 = 0", "line 2 = -1");
         s.run("LINE: the least number, if there is none such", Script.join(CROSSED, "line 0 = 0", "line 1 = 1", "line 2 = 2", "line 3 = 3", "line 4 = 4", "line 5 = 5", "line 6 = -1"));
+        // NODE 0 DELIVERED 3 4 5 1 2 0, NODE 1 0 1 2
+        s.run("LINE: the least number of all, if there is none such", "right: nodes 4;group 0 1;group 0;notice 2;delay 3 0 4;delay 2 0 2;delay 2 1 4", "send 3 0 = 0", "send 2 0 = 1", "send 2 0 = 2", "send 0 1 = 3", "send 0 1 = 4",
+            "send 0 1 = 5", "ticks 2", "hold 3 1 true", "ticks 8 = 6", "line 0 = 3", "line 3 = 1", "line 4 = 2", "line 5 = 0", "crash 0", "crash 3", "ticks 5 = 0", "ticks 1 = 3", "delivered 0 3 = 1", "delivered 0 5 = 0",
+            "delivered 1 0 = 0", "delivered 1 2 = 2", "line 0 = 3", "line 1 = 4", "line 2 = 5", "line 3 = 0", "line 4 = 1", "line 5 = 2", "line 6 = -1", "parted 0 1 = 2");
         s.run("LINE of 20", Script.join(Script.join(new String[] {"right: nodes 1;group 0"}, Script.times(20, "send 0 0")), Script.join(new String[] {"ticks 4 = 20"}, Script.join(Script.times(20, "line # = #"),
             "line 20 = -1", "line 21 = -1"))));
     }
@@ -147,6 +153,10 @@ public final class AskBoundsTest {
         s.run("KNOT of nobody, and of all", "right: nodes 6;group 0 1 2;group 3 4 5;group 0 1 2 3 4 5;group 5 4 3 2 1 0", "knot 0 1 = 0", "knot 2 3 = 63", "knot 0 2 = 7", "knot 3 1 = 56");
         s.run("RING none: fewer than three GROUPS", "ring = -1", "right: nodes 3;group 0 1", "ring = -1", "right: group 1 2", "ring = -1", "right: group 0 2", "ring = 7");
         s.run("RING none: two have no NODE in both", "right: nodes 4;group 0 1;group 1 2;group 2 3", "ring = -1");
+        s.run("RING none: the first and the second have no NODE in both", "right: nodes 2;group 0;group 1;group 0 1", "ring = -1");
+        s.run("RING none: the second and the third have no NODE in both", "right: nodes 2;group 0 1;group 0;group 1", "ring = -1");
+        s.run("RING: NODE 0 in both of the first two", "right: nodes 3;group 0 1;group 0 2;group 1 2", "ring = 7");
+        s.run("RING: NODE 0 in both of the last two", "right: nodes 3;group 1 2;group 0 1;group 0 2", "ring = 7");
         s.run("RING none: a NODE is in all three", "right: nodes 4;group 0 1 3;group 1 2 3;group 0 2 3", "ring = -1");
         s.run("RING: the first three", "right: nodes 3;group 0 1;group 0 1;group 1 2;group 1 2;group 0 2;group 0 2", "ring = 21");
         s.run("RING: the last three", "right: nodes 6;group 5;group 4;group 3;group 0 1;group 1 2;group 2 0", "ring = 56");
@@ -160,6 +170,17 @@ public final class AskBoundsTest {
     }
 
     private static void image(Script s) {
+        String[] one = {"right: nodes 4;group 0 1 2;group 1 3;delay 0 1 3;jitter 3;notice 2;at 26 crash 2;at 27 send 3 1", "send 0 0", "send 3 1", "hold 3 1 true", "ticks 5", "send 1 0", "crash 0", "ticks 5", "send 2 1", "ticks 2"};
+        String[] other = {"right: group 2;jitter 0;notice 20;delay 0 1 1;at 15 send 2 2", "hold 3 1 false", "hold 2 1 true", "seed 99", "send 1 2", "send 3 1", "ticks 20", "crash 1", "ticks 30", "ahead 0 1", "line 0", "due 2 0", "send 3 2", "ticks 3"};
+        String[] none = {};
+        s.comesBack("THE IMAGE of all", one, other);
+        s.comesBack("THE IMAGE of all, and on from there", one, other, "send 2 0", "hold 3 1 false", "ticks 9", "crash 1", "ticks 40", "send 3 0", "right: jitter 1", "ticks 9");
+        s.comesBack("THE IMAGE of a net without NODES", none, one);
+        s.comesBack("THE IMAGE of a net without NODES, and on from there", none, one, "right: nodes 3;group 0 1 2;notice 0", "crash 2", "send 0 0", "send 1 0", "ticks 9", "crash 0", "ticks 1");
+        s.comesBack("COST 0 at first, also behind going back", new String[] {"right: nodes 2;group 0;group 1;notice 0"}, new String[] {"send 0 0", "send 0 0", "ticks 9"}, "crash 1", "send 0 1");
+        String[] many = Script.join(new String[] {"right: nodes 6;group 0 1 2 3 4 5"}, Script.times(20, "send 0 0"));
+        s.comesBack("THE IMAGE of 120 PACKETS", many, new String[] {"ticks 2", "crash 0", "ticks 20"}, "ticks 1");
+        s.comesBack("THE IMAGE of few PACKETS, and 120 since", new String[] {"right: nodes 6;group 0 1 2 3 4 5", "send 1 0", "ticks 1"}, Script.times(19, "send 0 0"), "ticks 2", "send 2 0", "ticks 1");
         s.run("no IMAGE is kept", "back = false", "right: nodes 2;group 0;jitter 1", "send 0 0", "ticks 3", "back = false", "count 0 = 2", "count 4 = 3", "count 3 = 1", "count 5 = 1", "fault = -1");
         s.run("THE IMAGE of an empty net", "image", "right: nodes 2;group 0;jitter 1;notice 9;at 3 crash 0", "send 0 0", "ticks 2", "back = true", "count 0 = 0", "count 1 = 0", "count 2 = 0", "count 3 = 0",
             "count 4 = 0", "count 5 = 0", "count 6 = 3", "count 7 = 0", "count 8 = 0", "count 9 = 0", "seed 1 = 1");

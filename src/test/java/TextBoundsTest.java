@@ -55,6 +55,7 @@ public final class TextBoundsTest {
         s.run("nodes in a later text", "right: jitter 1", "right: ", "right: nodes 2", "count 0 = 2", "count 2 = 3");
         s.run("nodes behind a wrong text", "wrong: nodes 2;foo @ 8", "right: nodes 3", "count 0 = 3");
         s.run("nodes where there are NODES", "right: nodes 2", "wrong: nodes 2 @ 0", "wrong:   nodes 3 @ 2", "wrong: nodes @ 0", "wrong: nodes 9 @ 0", "count 0 = 2");
+        s.run("nodes where there is one NODE", "right: nodes 1", "wrong: nodes 1 @ 0", "wrong: nodes 2 @ 0", "count 0 = 1");
         s.run("nodes behind going back", "image", "right: nodes 2", "back = true", "right: nodes 5", "count 0 = 5");
     }
 
@@ -105,6 +106,7 @@ public final class TextBoundsTest {
         s.run("words are as long as a to z go on", "right: nodes2;group0 1;delay0 1 5;jitter2;notice7;at4send0 0;at5crash1", "count 0 = 2", "count 7 = 2");
         s.run("a letter too few, and too many", "wrong: node 2 @ 0", "wrong: nodess 2 @ 0", "wrong: nodesa 2 @ 0", "wrong: nodesz 2 @ 0", "wrong: jitte 1 @ 0",
             "wrong: jittera 1 @ 0", "wrong: notic 1 @ 0", "wrong: noticenotice 1 @ 0");
+        s.run("each letter counts", "wrong: xodes 2 @ 0", "wrong: nodex 2 @ 0", "wrong: noxes 2 @ 0", "wrong: xitter 1 @ 0", "wrong: jittex 1 @ 0", "wrong: xotice 1 @ 0", "wrong: noticx 1 @ 0", "wrong: jotter 1 @ 0");
         s.run("a to z end there", "wrong: nodes` @ 5", "wrong: nodes{ @ 5", "wrong: nodesA2 @ 5", "wrong: nodes_2 @ 5", "wrong: `nodes 2 @ 0", "wrong: {nodes 2 @ 0");
         s.run("a word that is none", "wrong: a @ 0", "wrong: z @ 0", "wrong: send 0 0 @ 0", "wrong: crash 0 @ 0", "wrong: jitter 1;jetter 1 @ 9", "wrong: NODES 2 @ 0",
             "wrong: Nodes 2 @ 0");
@@ -125,6 +127,9 @@ public final class TextBoundsTest {
         s.run("other bytes are no blanks", "wrong: \0nodes 2 @ 0", "wrong: \tnodes 2 @ 0", "wrong: \nnodes 2 @ 0", "wrong: \rnodes 2 @ 0", "wrong: \u001fnodes 2 @ 0",
             "wrong: !nodes 2 @ 0", "wrong: \u00a0nodes 2 @ 0", "wrong: \u00ffnodes 2 @ 0", "wrong: nodes\t2 @ 5", "wrong: nodes 2\t @ 7", "wrong: nodes 2\0 @ 7",
             "wrong: nodes 2\n @ 7", "wrong: nodes 2 \u00a0 @ 8", "wrong: nodes \u00b2 @ 6", "wrong: \u00ee\u00ef\u00e4\u00e5\u00f3 2 @ 0", "wrong: nodes 2\u00bbjitter 1 @ 7");
+        s.run("what was cut off the TAPE is not read", "right: nodes 2", "tape: group 01", "end 7 = true", "net = 2", "group 0 = 1", "tape: jitter 45", "end 8 = true", "net = 3", "count 5 = 4", "tape: notice 1;", "end 8 = true",
+            "net = 4", "tape: notices", "end 6 = true", "net ! IllegalArgumentException", "fault = 6", "tape: notice  2", "end 7 = true", "net ! IllegalArgumentException", "fault = 7");
+        s.run("400 bytes with a number at their end", "right: nodes 2", "right: " + " ".repeat(391) + "group 0 1", "group 0 = 3", "right: " + " ".repeat(393) + "group 0", "group 1 = 1", "wrong: " + " ".repeat(396) + "noti @ 396");
         s.run("400 bytes", "right: nodes 2" + " ".repeat(393), "count 0 = 2", "wrong: jitter 2" + " ".repeat(391) + "; @ 400", "wrong: jitter 2" + " ".repeat(391) + "x @ 399",
             "right: " + " ".repeat(392) + "jitter 2", "wrong: " + " ".repeat(394) + "jitter @ 400");
     }

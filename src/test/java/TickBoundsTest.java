@@ -226,6 +226,8 @@ public final class TickBoundsTest {
         s.run("THE LOG: 59", Script.join(rows, "count 9 = 59", "log 58 2 = 0", "log 58 3 = 0", "log 57 3 = 1", "log 59 0 = -1", "log 59 3 = -1", "log 0 1 = 1", "log 0 3 = 18"));
         s.run("THE LOG: 60", Script.join(rows, "crash 1", "count 9 = 60", "log 59 2 = 0", "log 59 3 = 0", "log 60 0 = -1", "log 60 2 = -1", "log 0 2 = 2", "log 0 3 = -1"));
         s.run("THE LOG: 61", Script.join(rows, "crash 1", "crash 0", "count 9 = 60", "log 59 2 = 0", "log 59 3 = 1", "log 60 2 = -1", "log 0 1 = 0", "log 1 1 = 1", "log 1 2 = 2"));
+        s.run("THE LOG: sent, DELIVERED, DOWN, taken over", "right: nodes 2;group 0;notice 0", "ticks 2", "send 1 0", "log 0 0 = 2", "log 0 1 = 1", "log 0 2 = 0", "log 0 3 = 0", "ticks 4 = 1", "log 0 0 = 5", "log 0 1 = 0",
+            "log 0 2 = 1", "log 0 3 = 0", "crash 1", "log 0 0 = 6", "log 0 1 = 1", "log 0 2 = 2", "log 0 3 = -1", "ticks 1", "log 0 0 = 6", "log 0 1 = 0", "log 0 2 = 3", "log 0 3 = 0", "count 9 = 4");
         s.run("THE LOG: none at first", "count 9 = 0", "log 0 0 = -1", "log 0 3 = -1", "log -1 0 = -1");
     }
 }

@@ -24,7 +24,7 @@ final class Asks {
         asks.each("message", messages, 5);
         asks.each("has", nodes, messages, 4);
         asks.each("gather", nodes, messages, 4);
-        asks.each("log", Math.min(10, x.count(9)), 4);
+        asks.each("log", x.count(9), 4);
         asks.each("when", nodes, messages);
         asks.each("block", nodes, messages);
         asks.each("due", nodes, messages);
@@ -33,6 +33,14 @@ final class Asks {
         asks.each("line", messages);
         asks.each("late", messages);
         asks.each("outside", messages);
+        asks.each("waits", messages);
+        asks.each("spared", messages);
+        asks.each("ahead", messages, messages);
+        asks.each("chain", nodes, messages, 2);
+        asks.each("parted", nodes, nodes);
+        asks.each("lag", nodes);
+        asks.add("slowest");
+        asks.add("ring");
         asks.packets(x, nodes);
         return asks.rows;
     }

@@ -30,17 +30,33 @@ final class Script {
     void changesNothing(String name, String[] before, String... calls) {
         List<String> asks = Asks.of(told(name, before));
         for (String call : calls) {
-            for (int from = 0; from < asks.size(); from += ASKED_OF_ONE) {
-                List<String> part = asks.subList(from, Math.min(asks.size(), from + ASKED_OF_ONE));
-                compare(name, before, call, part, "count 4");
-                compare(name, before, call, part, "back");
+            for (List<String> part : parts(asks)) {
+                compare(name, before, Script.join(before, call), part, "count 4");
+                compare(name, before, Script.join(before, call), part, "back");
             }
             if (usesTape(call)) {
                 told(name, join(before, call, "end 1 = false", "end 0 = true"));
             } else {
-                compare(name, before, call, List.of("count 0", "count 1", "count 2", "count 5", "count 6", "fault"), "net");
+                compare(name, before, Script.join(before, call), List.of("count 0", "count 1", "count 2", "count 5", "count 6", "fault"), "net");
             }
         }
+    }
+
+    /** One who keeps an IMAGE, does what is between and goes back has all as one who did nothing of that; also behind what follows. */
+    void comesBack(String name, String[] before, String[] between, String... then) {
+        String[] plain = join(before, then);
+        String[] back = join(join(join(join(before, "image"), between), "back = true"), then);
+        for (List<String> part : parts(Asks.of(told(name, plain)))) {
+            compare(name, plain, back, part, "count 4");
+        }
+    }
+
+    private static List<List<String>> parts(List<String> asks) {
+        List<List<String>> parts = new ArrayList<>();
+        for (int from = 0; from < asks.size(); from += ASKED_OF_ONE) {
+            parts.add(asks.subList(from, Math.min(asks.size(), from + ASKED_OF_ONE)));
+        }
+        return parts;
     }
 
     static String[] join(String[] one, String... other) {
@@ -58,21 +74,21 @@ final class Script {
         return all;
     }
 
-    private void compare(String name, String[] before, String call, List<String> part, String first) {
+    private void compare(String name, String[] one, String[] other, List<String> part, String first) {
         List<String> asks = new ArrayList<>(part);
         asks.add(0, first);
         asks.add("seed 7");
-        LeastPending plain = told(name, before);
-        LeastPending called = told(name, before);
-        tell(name, called, call);
+        LeastPending x = told(name, one);
+        LeastPending y = told(name, other);
+        String latest = other[other.length - 1];
         for (String ask : asks) {
             rows++;
-            String due = String.valueOf(call(plain, ask.split(" ")));
-            String got = String.valueOf(call(called, ask.split(" ")));
+            String due = String.valueOf(call(x, ask.split(" ")));
+            String got = String.valueOf(call(y, ask.split(" ")));
             // fault() is of the latest text, also of a wrong one
-            if (!due.equals(got) && !(usesTape(call) && ask.equals("fault"))) {
+            if (!due.equals(got) && !(usesTape(latest) && ask.equals("fault"))) {
                 wrong++;
-                System.out.println(name + ": behind " + call + ", " + first + ": " + ask + " is " + got + ", without that call " + due);
+                System.out.println(name + ": behind " + latest + ", " + first + ": " + ask + " is " + got + ", due is " + due);
             }
         }
     }
