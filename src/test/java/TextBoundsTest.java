@@ -161,6 +161,11 @@ public final class TextBoundsTest {
     }
 
     private static void nothingStays(Script s) {
+        String[] run = {"right: nodes 4;group 0 1 2;group 1 3;delay 0 1 3;jitter 3;notice 2;at 36 crash 2;at 37 send 3 1", "send 0 0", "send 3 1", "hold 3 1 true", "ticks 25", "send 1 0", "crash 0", "ticks 5", "send 2 1",
+            "ticks 2", "seed 5"};
+        s.alike("a text that is empty changes nothing but how many there are", run, Script.join(run, "right: "), "count 2");
+        s.alike("a text of blanks changes nothing but how many there are", run, Script.join(run, "right:    ", "right:  "), "count 2");
+        s.alike("a text that tells what is so already", run, Script.join(run, "right: delay 0 1 3;jitter 3;notice 2"), "count 2");
         String[] before = {"right: nodes 3;group 0 1;group 2;delay 0 1 2;jitter 1;notice 4;at 9 send 0 0", "send 0 0", "image", "send 2 1", "ticks 3"};
         s.changesNothing("of a wrong text nothing stays", before, "wrong: group 0;foo @ 8", "wrong: delay 0 1 9;foo @ 12", "wrong: delay 2 2 9;delay 2 2 0 @ 22",
             "wrong: jitter 5;foo @ 9", "wrong: notice 0;foo @ 9", "wrong: at 3 send 0 1;foo @ 14", "wrong: at 3 crash 0;foo @ 13", "wrong: group 0;at 3 send 0 2;group 0 1 2 3 @ 34",

@@ -44,10 +44,15 @@ final class Script {
 
     /** One who keeps an IMAGE, does what is between and goes back has all as one who did nothing of that; also behind what follows. */
     void comesBack(String name, String[] before, String[] between, String... then) {
-        String[] plain = join(before, then);
-        String[] back = join(join(join(join(before, "image"), between), "back = true"), then);
-        for (List<String> part : parts(Asks.of(told(name, plain)))) {
-            compare(name, plain, back, part, "count 4");
+        alike(name, join(before, then), join(join(join(join(before, "image"), between), "back = true"), then));
+    }
+
+    /** All that can be asked behind two runs is the same, but for these. */
+    void alike(String name, String[] one, String[] other, String... but) {
+        List<String> asks = Asks.of(told(name, one));
+        asks.removeAll(List.of(but));
+        for (List<String> part : parts(asks)) {
+            compare(name, one, other, part, "count 4");
         }
     }
 
