@@ -10,7 +10,10 @@ import java.util.Random;
 /** Random runs of calls: the class and the model must answer, or throw, alike. The random source has a fixed seed. */
 public final class FuzzTest {
     private static final int RUNS = Integer.getInteger("runs", 1500);
+    private static final int CALLS_OF_AN_OBJECT = 512;
+    private static final int[] EDGES = {Integer.MIN_VALUE, -2, -1, 20, 60, 61, 120, Integer.MAX_VALUE};
     private static final List<Method> ASKS = new ArrayList<>();
+    private static final List<Method> ALL = new ArrayList<>();
     private static int wrong = 0;
 
     private final Random random;
@@ -32,12 +35,17 @@ public final class FuzzTest {
             if (isPublic && !changing.contains(m.getName())) {
                 ASKS.add(m);
             }
+            if (isPublic) {
+                ALL.add(m);
+            }
         }
         ASKS.sort((a, b) -> a.getName().compareTo(b.getName()));
+        ALL.sort((a, b) -> a.getName().compareTo(b.getName()));
         for (int run = 1; run <= RUNS && wrong < 10; run++) {
             new FuzzTest(run).go();
+            new FuzzTest(-run).goInAnyOrder();
         }
-        System.out.println(wrong == 0 ? RUNS + " runs are alike" : wrong + " runs differ");
+        System.out.println(wrong == 0 ? 2 * RUNS + " runs are alike" : wrong + " runs differ");
         if (wrong != 0) {
             System.exit(1);
         }
@@ -98,6 +106,45 @@ public final class FuzzTest {
         } catch (Differs e) {
             // it has been told
         }
+    }
+
+    /** So many calls as an object is promised for, of all kinds, in any order and with any numbers. */
+    private void goInAnyOrder() {
+        try {
+            if (random.nextInt(10) != 0) {
+                begin();
+            }
+            while (trace.size() < CALLS_OF_AN_OBJECT) {
+                anyCall();
+            }
+        } catch (Differs e) {
+            // it has been told
+        }
+    }
+
+    private void anyCall() {
+        // without more of these hardly anything would be DELIVERED
+        if (random.nextInt(5) == 0) {
+            boolean sends = random.nextInt(3) == 0;
+            call(sends ? "send" : "ticks", sends ? new Object[] {someNode(), random.nextInt(3)} : new Object[] {random.nextInt(5)});
+            return;
+        }
+        Method m = ALL.get(random.nextInt(ALL.size()));
+        boolean isRare = List.of("crash", "back").contains(m.getName()) && random.nextInt(4) != 0;
+        if (isRare || m.getName().equals("net") && trace.size() < CALLS_OF_AN_OBJECT - 30 && random.nextBoolean()) {
+            tellSome();
+            return;
+        }
+        Object[] args = new Object[m.getParameterCount()];
+        for (int i = 0; i < args.length; i++) {
+            args[i] = m.getParameterTypes()[i] == boolean.class ? (Object) random.nextBoolean() : (Object) anyNumber();
+        }
+        call(m.getName(), args);
+    }
+
+    private int anyNumber() {
+        int choice = random.nextInt(40);
+        return choice < 30 ? random.nextInt(nodes) : choice < 38 ? random.nextInt(21) : EDGES[random.nextInt(EDGES.length)];
     }
 
     private void begin() {

@@ -29,9 +29,11 @@ public final class LanguageTest {
     }
 
     public static void main(String[] args) throws IOException {
+        String text = Files.readString(Path.of("src/main/java/LeastPending.java"));
         face();
+        faceOfTheDocument(text, Files.readString(Path.of("../shared/DOC.md")));
         inside();
-        source(Files.readString(Path.of("src/main/java/LeastPending.java")));
+        source(text);
         System.out.println(wrong == 0 ? "the face and the language are as due" : wrong + " wrong");
         if (wrong != 0) {
             System.exit(1);
@@ -63,6 +65,25 @@ public final class LanguageTest {
         }
         Constructor<?>[] constructors = LeastPending.class.getDeclaredConstructors();
         need(constructors.length == 1 && Modifier.isPublic(constructors[0].getModifiers()), "one public constructor");
+    }
+
+    /** Each line of the document's face stands in the class as it is written there, with the names and what is thrown. */
+    private static void faceOfTheDocument(String text, String document) {
+        String plain = text.replaceAll("\\s+", " ");
+        int from = document.indexOf("public final class");
+        String[] lines = document.substring(from, document.indexOf("```", from)).split("\n");
+        need(plain.contains(lines[0].trim()), lines[0]);
+        int methods = 0;
+        for (String line : lines) {
+            String one = line.trim();
+            if (one.endsWith(");") || one.contains(" throws ")) {
+                methods++;
+                need(plain.contains(one.replaceAll(";$", " {")), one);
+            } else if (one.endsWith(";")) {
+                need(plain.contains(one), one);
+            }
+        }
+        need(methods == FACE.length + 1, "the methods of the document, and the constructor: " + methods);
     }
 
     private static void inside() {
