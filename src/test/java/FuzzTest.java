@@ -11,6 +11,7 @@ import java.util.Random;
 public final class FuzzTest {
     private static final int RUNS = Integer.getInteger("runs", 1500);
     private static final int CALLS_OF_AN_OBJECT = 512;
+    private static final int CALLS_OF_A_TEXT = 25;
     private static final int[] EDGES = {Integer.MIN_VALUE, -2, -1, 20, 60, 61, 120, Integer.MAX_VALUE};
     private static final List<Method> ASKS = new ArrayList<>();
     private static final List<Method> ALL = new ArrayList<>();
@@ -22,6 +23,7 @@ public final class FuzzTest {
     private final Model model = new Model();
     private final List<String> trace = new ArrayList<>();
     private int nodes = 1;
+    private int calls = 0;
 
     private FuzzTest(int run) {
         this.run = run;
@@ -68,6 +70,7 @@ public final class FuzzTest {
         for (int i = 0; i < args.length; i++) {
             types[i] = args[i] instanceof Boolean ? boolean.class : int.class;
         }
+        calls++;
         Object got = answer(real, name, types, args);
         Object due = answer(model, name, types, args);
         trace.add(name + Arrays.toString(args) + " = " + got);
@@ -114,7 +117,7 @@ public final class FuzzTest {
             if (random.nextInt(10) != 0) {
                 begin();
             }
-            while (trace.size() < CALLS_OF_AN_OBJECT) {
+            while (calls < CALLS_OF_AN_OBJECT) {
                 anyCall();
             }
         } catch (Differs e) {
@@ -131,7 +134,8 @@ public final class FuzzTest {
         }
         Method m = ALL.get(random.nextInt(ALL.size()));
         boolean isRare = List.of("crash", "back").contains(m.getName()) && random.nextInt(4) != 0;
-        if (isRare || m.getName().equals("net") && trace.size() < CALLS_OF_AN_OBJECT - 30 && random.nextBoolean()) {
+        boolean hasRoom = calls + CALLS_OF_A_TEXT <= CALLS_OF_AN_OBJECT;
+        if (hasRoom && (isRare || m.getName().equals("net") && random.nextBoolean())) {
             tellSome();
             return;
         }
